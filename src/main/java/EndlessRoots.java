@@ -88,19 +88,14 @@ public final class EndlessRoots {
 
     public int read() {
         int fault = setUp.findFault();
-        int done = fault < 0 ? doClauses() : 0;
-        setUp.clear();
-        return fault < 0 ? done : -10 - fault;
-    }
-
-    private int doClauses() {
         int done = 0;
-        for (int k = 0; k < setUp.size(); k++) {
+        for (int k = 0; fault < 0 && k < setUp.size(); k++) {
             if (doClause(setUp.kind(k), setUp.first(k), setUp.second(k))) {
                 done++;
             }
         }
-        return done;
+        setUp.clear();
+        return fault < 0 ? done : -10 - fault;
     }
 
     /** Answers whether the CLAUSE was done; one that would be refused isn't. */
@@ -927,7 +922,6 @@ public final class EndlessRoots {
 
         void clear() {
             length = 0;
-            clauses = 0;
         }
 
         int bytes() {

@@ -173,6 +173,10 @@ public final class PromisesTest {
         due.is("5: how many", r.told(6), 8);
         r.wipe();
         due.is("5: after wipe", r.note(), 1);
+        r.place(-1, 2);
+        due.is("5: the same x alone is another", r.note(), 2);
+        r.place(2, 1);
+        due.is("5: the same y alone is another", r.note(), 3);
     }
 
     private static void promise6() {
@@ -634,6 +638,12 @@ public final class PromisesTest {
         due.is("27: a as it was", r.told(0), 2);
         due.is("27: b as it was", r.told(1), 3);
         isAt("27: as it was", r, 1, 1);
+        EndlessRoots turned = with(2, 3);
+        turned.place(2, 5);
+        turned.event(2, 0);
+        turned.event(1, 1);
+        // a 1, b 2, AT 5, 2
+        due.is("27: x and y change places, too", turned.after(2), 100 - 40 + 8);
         EndlessRoots far = with(6, 1);
         far.place(500, 999);
         far.event(0, 0);
@@ -840,6 +850,11 @@ public final class PromisesTest {
         due.is("36: a shorter row", r.peek(3, 1), NO);
         r.tape(3, 3, 2);
         due.is("36: all 0", r.peek(3, 1), 0);
+        r.item(3, 0, 8);
+        r.tape(3, -1, 0);
+        due.is("36: nothing there any more", r.peek(3, 0), NO);
+        r.tape(3, 2, 2);
+        due.is("36: all 0 behind nothing", r.peek(3, 0), 0);
     }
 
     private static void row(String of, EndlessRoots r, int tape, int... want) {

@@ -17,7 +17,24 @@ public final class TablesTest {
                 strings(of, model);
             }
         }
+        oneBehindTheOther();
         due.close();
+    }
+
+    /** What is kept of one table must not be told of the next, though a or b stay. */
+    private static void oneBehindTheOther() {
+        EndlessRoots roots = new EndlessRoots();
+        Model m = new Model();
+        for (int k = 0; k < 72; k++) {
+            int a = k < 36 ? k / 6 + 1 : k % 6 + 1;
+            int b = k < 36 ? k % 6 + 1 : (k - 36) / 6 + 1;
+            due.is("table", roots.table(a, b), m.table(a, b));
+            due.is("counted(5, 5)", roots.counted(5, 5), m.counted(5, 5));
+            due.is("c(3, 6, 0)", roots.c(3, 6, 0), m.c(3, 6, 0));
+            due.is("made(1, " + (b + 1) + ")", roots.made(1, b + 1), m.made(1, b + 1));
+            due.is("made(" + (a + 1) + ", 1)", roots.made(a + 1, 1), m.made(a + 1, 1));
+            due.is("level(7, 1)", roots.level(7, 1), m.level(7, 1));
+        }
     }
 
     private static EndlessRoots fresh(int a, int b) {

@@ -30,6 +30,10 @@ final class Due {
         return wrong;
     }
 
+    int looked() {
+        return looked;
+    }
+
     void close() {
         System.out.println(test + ": " + looked + " looked at, " + wrong + " wrong");
         if (wrong != 0 || looked == 0) {

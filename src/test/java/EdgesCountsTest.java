@@ -138,6 +138,16 @@ public final class EdgesCountsTest extends Edges {
         }
     }
 
+    @Says(promise = 17, words = "`int counted(int x, int y)`: COUNTED.")
+    static void countedGoesByTheTableThoughOnlyAOrBIsAnother() {
+        EndlessRoots r = new EndlessRoots();
+        int[][] rows = {{3, 3, 2}, {1, 3, 1}, {1, 1, 0}, {3, 1, 0}, {3, 3, 2}, {2, 3, 2}, {2, 2, 1}, {2, 1, 0}};
+        for (int[] n : rows) {
+            r.table(n[0], n[1]);
+            is("counted(2, 3) by " + pair(n), r.counted(2, 3), n[2]);
+        }
+    }
+
     @Says(promise = 17, words = "BAD: x, y (0 .. 12 each, HEIGHT 1 to 12).")
     static void countedBeyondIsBad() {
         for (int[] n : BEYOND_12) {
@@ -178,8 +188,8 @@ public final class EdgesCountsTest extends Edges {
     }
 
     @Says(promise = 18, words = {"of OTHER: for all twos of PLACES of HEIGHT 1 or more, x and y not below 0, that come to it "
-        + "together (u, v and x - u, y - v, each order for itself): PRODUCT of the two times C of the one times C of the other; "
-        + "all these together, by (NORM of it less 2 (b x and a y, together)).", "(All worked in fractions;"})
+        + "together (u, v and x - u, y - v, each order for itself): PRODUCT of the two times C of the one times C of the "
+        + "other; all these together, by (NORM of it less 2 (b x and a y, together)).", "(All worked in fractions;"})
     static void cOfOtherIsTheSumOverAllTwos() {
         // by 2 2: twice -4, by -8
         fraction(with(2, 2), 1, 1, 1, 1);
@@ -259,9 +269,9 @@ public final class EdgesCountsTest extends Edges {
     }
 
     @Says(promise = 20, words = {"`long made(int x, int y)`: MADE.",
-        "MADE of a PLACE of HEIGHT 0 to 12, x and y not below 0: the coefficient at it (letters s, t: s to the power of x, t to "
-        + "that of y) in the product, over all POSITIVE ROOTS u, v of HEIGHT 12 or less, of (1 less s to the u t to the v) to "
-        + "the power of COUNTED."})
+        "MADE of a PLACE of HEIGHT 0 to 12, x and y not below 0: the coefficient at it (letters s, t: s to the power of x, t "
+        + "to that of y) in the product, over all POSITIVE ROOTS u, v of HEIGHT 12 or less, of (1 less s to the u t to the v) "
+        + "to the power of COUNTED."})
     static void madeOfHeight0To12() {
         int[][] all = {{0, 0, 1}, {1, 0, -1}, {0, 1, -1}, {12, 0, 0}, {0, 12, 0}, {6, 6, 0}, {2, 0, 0}};
         for (int[] n : all) {
@@ -274,6 +284,20 @@ public final class EdgesCountsTest extends Edges {
         is("by 5 1, HEIGHT 12", with(5, 1).made(6, 6), -1);
         is("by 1 2, all of it", with(1, 2).made(3, 4), 1);
         is("by 1 1, all of it", with(1, 1).made(2, 2), -1);
+    }
+
+    @Says(promise = 20, words = "`long made(int x, int y)`: MADE.")
+    static void madeGoesByTheTableThoughOnlyAOrBIsAnother() {
+        // by a and b it is 1 at 1, b + 1 and at a + 1, 1, and 0 elsewhere on these lines but for the first two
+        EndlessRoots r = new EndlessRoots();
+        int[][] tables = {{3, 3}, {5, 3}, {5, 6}, {3, 6}, {3, 3}, {4, 2}};
+        for (int[] n : tables) {
+            r.table(n[0], n[1]);
+            for (int k = 2; k <= 8; k++) {
+                is("made(1, " + k + ") by " + pair(n), r.made(1, k), k == n[1] + 1 ? 1 : 0);
+                is("made(" + k + ", 1) by " + pair(n), r.made(k, 1), k == n[0] + 1 ? 1 : 0);
+            }
+        }
     }
 
     @Says(promise = 20, words = "NO: x, y (0 .. 12 each, HEIGHT 0 to 12).")
@@ -294,8 +318,8 @@ public final class EdgesCountsTest extends Edges {
         }
     }
 
-    @Says(promise = 21, words = "If a WORD of k signs (0 .. 24 of them, no two alike right behind one another) comes to it, it is "
-        + "1 for an even k, -1 for an odd one (k of the shortest such);")
+    @Says(promise = 21, words = "If a WORD of k signs (0 .. 24 of them, no two alike right behind one another) comes to it, it "
+        + "is 1 for an even k, -1 for an odd one (k of the shortest such);")
     static void signedOfNoSignsAndOfAllWordsOfATableWithAnEnd() {
         is("no signs, 1 1", with(1, 1).signed(0, 0), 2);
         is("no signs, 6 6", with(6, 6).signed(0, 0), 2);

@@ -122,8 +122,8 @@ public final class EdgesSeenTest extends Edges {
     }
 
     @Says(promise = 24, words = {"`long odds(int h, int part)`: ODDS; part likewise.",
-        "ODDS of h (1 .. 12): PLACES of HEIGHT h, x and y not below 0, being alike likely, how likely one is a ROOT: a fraction "
-        + "in lowest terms."})
+        "ODDS of h (1 .. 12): PLACES of HEIGHT h, x and y not below 0, being alike likely, how likely one is a ROOT: a "
+        + "fraction in lowest terms."})
     static void oddsOf1AndOf12InLowestTerms() {
         EndlessRoots r = with(3, 3);
         fraction("2 of 2", r.odds(1, 0), r.odds(1, 1), 1, 1);

@@ -542,8 +542,8 @@ public final class EdgesTapesTest extends Edges {
 
     @Says(promise = 37, words = "or beyond either's end.")
     static void shiftBeyondEithersEndIsPlace() {
-        int[][] beyond = {{3, 0, 4}, {0, 1, 4}, {0, 0, 5}, {6, 0, 1}, {0, 4, 1}, {7, 0, 0}, {0, 5, 0}, {MOST, 0, 1}, {0, MOST, 1},
-            {0, 0, MOST}, {1, 1, MOST}, {MOST, MOST, MOST}, {MOST, 0, 0}, {0, MOST, 0}};
+        int[][] beyond = {{3, 0, 4}, {0, 1, 4}, {0, 0, 5}, {6, 0, 1}, {0, 4, 1}, {7, 0, 0}, {0, 5, 0}, {MOST, 0, 1},
+            {0, MOST, 1}, {0, 0, MOST}, {1, 1, MOST}, {MOST, MOST, MOST}, {MOST, 0, 0}, {0, MOST, 0}};
         for (int[] n : beyond) {
             refused("shift(0, " + n[0] + ", 1, " + n[1] + ", " + n[2] + ")", EdgesTapesTest::withRows,
                 r -> r.shift(0, n[0], 1, n[1], n[2]), PLACE);

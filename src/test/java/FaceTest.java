@@ -1,17 +1,12 @@
-import java.io.IOException;
 import java.lang.reflect.Constructor;
 import java.lang.reflect.Field;
 import java.lang.reflect.Method;
 import java.lang.reflect.Modifier;
-import java.nio.file.Files;
-import java.nio.file.Path;
 import java.util.Arrays;
 import java.util.Set;
 import java.util.TreeSet;
-import java.util.regex.Matcher;
-import java.util.regex.Pattern;
 
-/** The document's face, and those rules of LANGUAGE.md that can be seen from the class and its source. */
+/** The document's face, and those rules of LANGUAGE.md that can be seen from the compiled class. */
 public final class FaceTest {
     private static final String[] FACE = {
         "int table(int,int)", "int place(int,int)", "int carry(int)", "int note()", "int wipe()", "int feed(int)",
@@ -23,19 +18,13 @@ public final class FaceTest {
         "int image()", "int undo()", "int count(int)", "int tape(int,int,int)", "int item(int,int,long)",
         "long peek(int,int)", "int shift(int,int,int,int,int)",
     };
-    private static final String[] OUTSIDE = {
-        "throw", "throws", "try", "catch", "finally", "synchronized", "assert", "import", "package", "yield",
-        "->", "::", "double", "float", "equals", "hashCode", "toString", "volatile", "transient", "native",
-        "protected", "var", "Object", "System.out", "System.nanoTime", "Exact",
-    };
 
     private static final Due due = new Due("FaceTest");
 
-    public static void main(String[] args) throws IOException {
+    public static void main(String[] args) {
         methods();
         constants();
         classes();
-        source();
         due.close();
     }
 
@@ -109,25 +98,5 @@ public final class FaceTest {
             due.holds(f + " is of a sort that a constant may be", t == int.class || t == long.class
                 || t == boolean.class || t == char.class || t == String.class);
         }
-    }
-
-    private static void source() throws IOException {
-        String root = System.getProperty("project.root", ".");
-        String text = Files.readString(Path.of(root, "src/main/java/EndlessRoots.java"));
-        String code = text.replaceAll("(?s)/\\*.*?\\*/", "").replaceAll("//[^\n]*", "");
-        for (String word : OUTSIDE) {
-            boolean plain = Character.isLetter(word.charAt(0));
-            Matcher m = Pattern.compile(plain ? "\\b" + Pattern.quote(word) + "\\b" : Pattern.quote(word)).matcher(code);
-            due.holds("the source has no '" + word + "'", !m.find());
-        }
-        due.holds("the source is of signs up to 127", text.chars().allMatch(c -> c < 128));
-        // A method begins at four or eight blanks and ends with a brace at the same depth.
-        Matcher m = Pattern.compile("(?m)^( {4}| {8})\\S[^\n;=]*\\) \\{\n(?s:.*?)^\\1\\}").matcher(text);
-        int methods = 0;
-        while (m.find()) {
-            methods++;
-            due.holds("methods stay short: " + m.group().split("\n")[0].trim(), m.group().split("\n").length <= 60);
-        }
-        due.holds("the methods were found", methods > 80);
     }
 }
